@@ -326,7 +326,7 @@ public final class BarForger {
         return Math.abs(number - wished) <= tolerance;
     }
 
-    /** The way was found with the old volume; a heat may leave too little of it, yet the blows are given all the same. */
+    /** A heat on the way may leave too little volume for an upset, which is given all the same. */
     private void followWay(Bar bar, int part) {
         int blows = search.blows;
         for (int index = 0; index < blows; index++) {
@@ -424,7 +424,7 @@ public final class BarForger {
                 case TURNED:
                     return allowsDraw(width, height);
                 case UPSET:
-                    return allowsUpset(volume);
+                    return allowsUpset(lengthWith(volume, width, height));
                 default:
                     return false;
             }
@@ -443,7 +443,7 @@ public final class BarForger {
         }
 
         private static int pressed(int side) {
-            return Math.max(1, side / 10);
+            return side < 10 ? 1 : side / 10;
         }
 
         private static boolean allowsDraw(int struck, int other) {
@@ -451,8 +451,7 @@ public final class BarForger {
             return struck - less >= LEAST_SIDE && other + less / 3 <= MOST_SIDE;
         }
 
-        private boolean allowsUpset(int volume) {
-            int length = lengthWith(volume, width, height);
+        private boolean allowsUpset(int length) {
             int smaller = Math.min(width, height);
             int greater = Math.max(width, height);
             return greater < MOST_SIDE && length >= 1 && length <= 3 * smaller;
@@ -800,6 +799,7 @@ public final class BarForger {
     private static final class WaySearch {
         private static final int SIDES = MOST_SIDE - LEAST_SIDE + 1;
         private static final int CELLS = SIDES * SIDES;
+        /** The mark of the start; 0 marks what was not reached, and a kind of blow plus 1 what it reached. */
         private static final int START = 9;
 
         /** The number of blows of the way that was found last. */
@@ -820,8 +820,18 @@ public final class BarForger {
             wishedWidth = width;
             wishedHeight = height;
             tolerance = wishedTolerance;
-            section.become(bar.widths.get(part), bar.heights.get(part));
-            blows = sectionFits() ? 0 : search();
+            int start = begin(bar.widths.get(part), bar.heights.get(part));
+            int goal = sectionFits() ? start : NONE;
+            int levelBegin = 0;
+            int level = 0;
+            while (goal == NONE && level < MOST_BLOWS) {
+                int levelEnd = count;
+                goal = reachFrom(levelBegin, levelEnd);
+                levelBegin = levelEnd;
+                level++;
+            }
+            blows = goal == NONE ? NONE : level;
+            traceBack(goal);
             return blows;
         }
 
@@ -829,48 +839,41 @@ public final class BarForger {
             return way.get(index);
         }
 
-        private int search() {
+        private int begin(int width, int height) {
             marks.clear();
             count = 0;
-            reach(cellOfSection(), 0, START);
-            int begin = 0;
-            for (int level = 1; level <= MOST_BLOWS; level++) {
-                int end = count;
-                int goal = reachFrom(begin, end);
-                if (goal != NONE) {
-                    traceBack(goal, level);
-                    return level;
-                }
-                begin = end;
-            }
-            return NONE;
+            section.become(width, height);
+            int start = cellOfSection();
+            reach(start, start, START);
+            return start;
         }
 
         /** Reaches what is one blow behind a level; answers the first section that fits. */
-        private int reachFrom(int begin, int end) {
-            for (int index = begin; index < end; index++) {
+        private int reachFrom(int levelBegin, int levelEnd) {
+            for (int index = levelBegin; index < levelEnd; index++) {
                 int cell = reached.get(index);
                 for (int kind = DRAW; kind <= UPSET; kind++) {
-                    int next = newCellBehind(cell, kind);
-                    if (next != NONE) {
-                        reach(next, cell, kind + 1);
-                        if (sectionFits()) {
-                            return next;
-                        }
+                    if (reachBehind(cell, kind) && sectionFits()) {
+                        return cellOfSection();
                     }
                 }
             }
             return NONE;
         }
 
-        private int newCellBehind(int cell, int kind) {
+        /** Answers whether the blow is possible and leads to a section that was not reached yet. */
+        private boolean reachBehind(int cell, int kind) {
             section.become(cell / SIDES + LEAST_SIDE, cell % SIDES + LEAST_SIDE);
             if (!section.allows(kind, volume)) {
-                return NONE;
+                return false;
             }
             section.change(kind);
             int next = cellOfSection();
-            return marks.get(next) == 0 ? next : NONE;
+            if (marks.get(next) != 0) {
+                return false;
+            }
+            reach(next, cell, kind + 1);
+            return true;
         }
 
         private void reach(int cell, int before, int mark) {
@@ -880,9 +883,9 @@ public final class BarForger {
             count++;
         }
 
-        private void traceBack(int goal, int level) {
+        private void traceBack(int goal) {
             int cell = goal;
-            for (int index = level - 1; index >= 0; index--) {
+            for (int index = blows - 1; index >= 0; index--) {
                 way.set(index, marks.get(cell) - 1);
                 cell = cellBefore.get(cell);
             }
@@ -918,7 +921,6 @@ public final class BarForger {
         int read() {
             position = 0;
             orders = 0;
-            error = NONE;
             while (orders < MOST_BYTES && position < length) {
                 if (!readOrder() || !accept(';')) {
                     return error;

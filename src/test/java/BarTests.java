@@ -289,6 +289,9 @@ public final class BarTests {
         checks.index("behind the last part", () -> x.cut(1, 1));
         checks.due("a cut just below", x.cut(0, 249), 2);
         duePart(x, 1, 40, 40, 1600, 1);
+        checks.due("the least length", x.cut(0, 1), 3);
+        duePart(x, 0, 40, 40, 1600, 1);
+        duePart(x, 1, 40, 40, 248 * 1600, 248);
         BarForger longest = taken(10, 10, 9000000);
         checks.due("the greatest length", longest.cut(0, 9999), 2);
         duePart(longest, 0, 10, 10, 999900, 9999);
@@ -321,6 +324,7 @@ public final class BarTests {
         for (int part : OUTSIDE) {
             checks.unchanged("no such part", x, INDEX, () -> x.weld(part));
         }
+        weldOfOtherBlows();
         x.take(20, 20, 40000);
         x.cut(0, 50);
         x.blow(0, 0, 1);
@@ -335,6 +339,27 @@ public final class BarTests {
         checks.unchanged("other widths", x, STATE, () -> x.weld(0));
         x.pause(30);
         checks.unchanged("the last part, cold", x, INDEX, () -> x.weld(1));
+    }
+
+    /** Parts come to the same section by blows of their own. */
+    private void weldOfOtherBlows() {
+        BarForger x = taken(20, 20, 8000);
+        x.cut(0, 5);
+        x.blow(1, 2, 1);
+        x.blow(1, 2, 1);
+        x.cut(1, 4);
+        x.blow(0, 2, 2);
+        duePart(x, 0, 22, 22, 2000, 4, 2);
+        checks.due("weld of all but the last", x.weld(0), 3936 / 484);
+        duePart(x, 0, 22, 22, 3936, 8, 4);
+        checks.due("weld of all", x.weld(0), 8000 / 484);
+        duePart(x, 0, 22, 22, 8000, 16, 6);
+        x.undo();
+        x.blow(0, 2, 3);
+        x.blow(1, 2, 3);
+        checks.due("blows by themselves", x.weld(0), 8000 / 625);
+        duePart(x, 0, 25, 25, 8000, 12, 4 + 3 + 2 + 3);
+        checks.due("all blows", x.value(4), 10);
     }
 
     private void weldWarmth() {
@@ -383,6 +408,9 @@ public final class BarTests {
         checks.due("the warmth", x.value(1), 1250 - 8 * 12);
         checks.holds("it fits", Math.abs(x.part(0, 0) - 30) <= 2 && Math.abs(x.part(0, 1) - 30) <= 2);
         checks.due("undo of forge", x.undo(), 1);
+        checks.due("a wish that is not square", x.forge(0, 41, 36, 0), 1);
+        duePart(x, 0, 41, 36, 400000, 271, 1);
+        x.undo();
         checks.due("no blows", x.value(4), 0);
         BarForger cold = new BarForger();
         cold.pause(60);
@@ -448,6 +476,11 @@ public final class BarTests {
         x.tellStep(20, 17, 2, 0);
         checks.due("the height is too far", x.part(0, 8), 0);
         x.clearSteps();
+        BarForger flat = taken(30, 20, 8000);
+        flat.tellStep(30, 20, 0, 0);
+        checks.due("fits, not square", flat.part(0, 8), 1);
+        flat.take(20, 30, 8000);
+        checks.due("turned, it does not fit", flat.part(0, 8), 0);
         x.tellStep(18, 22, 2, 0);
         x.cut(0, 5);
         checks.due("the first part", x.part(0, 8), 1);

@@ -99,8 +99,18 @@ public final class WayTests {
         x.take(20, 20, 8000);
         dueBlows(x, 22, 22, 0, 2, 2);
         x.take(8, 9, 72 * 5);
-        // by one draw and an upset, in either order
+        checks.due("an upset and a draw lead there too", sidesBehind(x, 2, 0), 9 * 1000 + 9);
         dueBlows(x, 9, 9, 0, 0, 2);
+    }
+
+    /** The sides of part 0 behind two blows, which are undone. */
+    private static int sidesBehind(BarForger x, int first, int second) {
+        x.blow(0, first, 1);
+        x.blow(0, second, 1);
+        int sides = x.part(0, 0) * 1000 + x.part(0, 1);
+        x.undo();
+        x.undo();
+        return sides;
     }
 
     private void blowOfRefusals() {
@@ -138,6 +148,10 @@ public final class WayTests {
         checks.due("heats of 47 blows at 830", x.heatsTo(0, 5, 5, 0), 2);
         checks.due("as many as forging needs", x.forge(0, 5, 5, 0), 47);
         checks.due("which are", x.value(3), 2);
+        x.take(40, 40, 400000);
+        x.heat();
+        x.heat();
+        checks.due("heats so far do not count", x.heatsTo(0, 5, 5, 0), 1);
     }
 
     private void heatsToSteps() {
@@ -147,6 +161,8 @@ public final class WayTests {
         long before = x.digest();
         checks.due("one step", x.heatsToSteps(), 1);
         checks.due("heatsToSteps changes nothing", x.digest(), before);
+        x.heat();
+        checks.due("heats so far do not count", x.heatsToSteps(), 1);
         x.tellStep(100, 5, 0, 0);
         checks.due("a step without a part", x.heatsToSteps(), 1);
         x.cut(0, 50);
