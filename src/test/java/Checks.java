@@ -24,6 +24,10 @@ final class Checks {
         note(got, what, got, true);
     }
 
+    void equal(String what, Object got, Object want) {
+        note(want.equals(got), what, got, want);
+    }
+
     void index(String what, Call call) {
         throwing(what, IndexOutOfBoundsException.class, call);
     }

@@ -1,0 +1,25 @@
+/**
+ * Every sentence of the document that names a boundary case, on its edge, inside and outside. The sentences are quoted;
+ * a line of a promise or a paragraph of the terms that no check quotes fails too.
+ */
+public final class EdgeTests {
+    private EdgeTests() {
+    }
+
+    public static void main(String[] args) {
+        Checks checks = new Checks("EdgeTests");
+        Document document = new Document();
+        Edges edges = new Edges(checks, document);
+        new TermEdges(edges).run();
+        new BarEdges(edges).run();
+        new StepEdges(edges).run();
+        new WayEdges(edges).run();
+        new TextEdges(edges).run();
+        new StateEdges(edges).run();
+        checks.due("promises", document.count("Promise"), 26);
+        for (String line : document.unquoted()) {
+            checks.holds("no check quotes " + line, false);
+        }
+        checks.end();
+    }
+}
