@@ -10,6 +10,9 @@ import java.util.Map;
 
 /** The sections of DOC.md, and which of their words tests have quoted. */
 final class Document {
+    /** The title and the sections of which no call can break a sentence, or that FaceTests compares as a whole. */
+    private static final List<String> UNTOLD = List.of("", "The public face", "Not promised");
+
     private final Map<String, String> sections = new LinkedHashMap<>();
     private final Map<String, List<String>> quotes = new LinkedHashMap<>();
 
@@ -37,12 +40,17 @@ final class Document {
         return sections.getOrDefault(section, "").contains(words);
     }
 
-    /** The sentences of the terms and of the promises that no words quoted are of. */
+    /** The lines of that section, its heading first. */
+    String section(String title) {
+        return sections.getOrDefault(title, "");
+    }
+
+    /** The sentences that no words quoted are of, but those of the face and of what is free. */
     List<String> unquoted() {
         List<String> left = new ArrayList<>();
         for (Map.Entry<String, String> section : sections.entrySet()) {
-            if (section.getKey().equals("Terms") || section.getKey().startsWith("Promise")) {
-                for (String sentence : sentences(section.getValue())) {
+            if (!UNTOLD.contains(section.getKey())) {
+                for (String sentence : sentences(section.getKey())) {
                     if (!isQuoted(section.getKey(), sentence)) {
                         left.add(section.getKey() + ": " + sentence);
                     }
@@ -61,10 +69,10 @@ final class Document {
         return count;
     }
 
-    /** Without the headings, the paragraphs' titles, the signatures and what is said of the face alone. */
-    private static List<String> sentences(String text) {
+    /** Those of that section without the headings, the paragraphs' titles, the signatures and what is of the face. */
+    List<String> sentences(String title) {
         List<String> sentences = new ArrayList<>();
-        for (String line : text.split("\n")) {
+        for (String line : section(title).split("\n")) {
             if (!line.startsWith("## ") && !line.startsWith("Ahead of")) {
                 String words = line.replaceFirst("^(- |(int|double|long) [^:]*: |BarForger\\(\\): )", "")
                         .replaceFirst("^(Bar|Warmth|Blows on a part|Sections|Steps|Text|Undo|Exceptions)\\. ", "");

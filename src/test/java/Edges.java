@@ -27,6 +27,13 @@ final class Edges {
         x.undo();
     };
 
+    /** Eight parts and eight steps of which no two are alike, all counts at work; three saved states. */
+    static final Setup UNLIKE = x -> {
+        unlike(x);
+        x.pause(1);
+        x.undo();
+    };
+
     private final Checks checks;
     private final Document document;
     private String sentence = "no sentence";
@@ -51,6 +58,28 @@ final class Edges {
         x.tellStep(18, 20, 1, 5);
         x.pause(2);
         write(x, "h;d0;t1x2;");
+    }
+
+    /** Part k is 10 + k long at first, and gets k + 1 draws, turned ones where k is odd. */
+    private static void unlike(BarForger x) {
+        x.setScale(17);
+        x.take(30, 20, 600 * 200 + 599);
+        x.cut(0, 190);
+        x.crop();
+        for (int part = 0; part < 7; part++) {
+            x.cut(part, 10 + part);
+        }
+        for (int part = 0; part < 8; part++) {
+            x.blow(part, part % 2, part + 1);
+            if (part == 4) {
+                x.heat();
+            }
+        }
+        for (int step = 0; step < 8; step++) {
+            x.tellStep(24 - step, 19 - step, step, 3 * step);
+        }
+        x.pause(2);
+        write(x, "t6;u7;h;");
     }
 
     static void write(BarForger x, String text) {

@@ -1,6 +1,5 @@
 import java.io.IOException;
 import java.lang.management.ManagementFactory;
-import java.lang.reflect.Constructor;
 import java.lang.reflect.Field;
 import java.lang.reflect.Method;
 import java.lang.reflect.Modifier;
@@ -10,39 +9,11 @@ import java.nio.file.Path;
 import java.util.ArrayList;
 import java.util.Arrays;
 import java.util.List;
-import java.util.TreeSet;
 import java.util.regex.Matcher;
 import java.util.regex.Pattern;
 
-/** The face, the room that calls take, and what LANGUAGE.md rules out and a pattern can find. */
+/** The sizes, the room that calls take, and what LANGUAGE.md rules out and a pattern can find. */
 public final class RuleTests {
-    private static final String[] FACE = {
-        "int append(int) IllegalArgumentException IllegalStateException",
-        "int blow(int,int,int) IndexOutOfBoundsException IllegalArgumentException IllegalStateException",
-        "int blowOf(int,int,int,int,int) IndexOutOfBoundsException IllegalArgumentException",
-        "int carryOut()",
-        "int clearSteps()",
-        "int clearText()",
-        "int crop() IllegalStateException",
-        "int cut(int,int) IndexOutOfBoundsException IllegalArgumentException IllegalStateException",
-        "int forge(int,int,int,int) IndexOutOfBoundsException IllegalArgumentException IllegalStateException",
-        "int heat()",
-        "int heatsTo(int,int,int,int) IndexOutOfBoundsException IllegalArgumentException",
-        "int heatsToSteps()",
-        "int lengthAs(int,int) IllegalArgumentException",
-        "int part(int,int) IndexOutOfBoundsException IllegalArgumentException",
-        "int pause(int) IllegalArgumentException",
-        "int setScale(int) IllegalArgumentException",
-        "int step(int,int) IndexOutOfBoundsException IllegalArgumentException",
-        "int take(int,int,int) IllegalArgumentException",
-        "int tellStep(int,int,int,int) IllegalArgumentException IllegalStateException",
-        "int undo() IllegalStateException",
-        "int value(int) IllegalArgumentException",
-        "int way(int,int,int,int) IndexOutOfBoundsException IllegalArgumentException",
-        "int weld(int) IndexOutOfBoundsException IllegalStateException",
-        "double kept()",
-        "long digest()",
-    };
     private static final String[] RULED_OUT = {"->", "::", "\\bfinally\\b", "\\bassert\\b", "\\bsynchronized\\b",
         "\\bcatch\\b", "\\bSystem\\.(?!arraycopy)", "Exact\\(", "\"\\s*\\+", "\\+\\s*\"", "\\bMath\\.random",
         "\\bprotected\\b", "\\bstatic\\s*\\{", "\\bpackage\\b", "\\bThread\\b", "\\bObject\\b", "\\bequals\\(",
@@ -55,67 +26,10 @@ public final class RuleTests {
     }
 
     private void run() throws IOException {
-        face();
-        membersAreHidden();
         sizes();
         source();
         room();
         checks.end();
-    }
-
-    private static String shown(Method method) {
-        StringBuilder shown = new StringBuilder(method.getReturnType().getSimpleName()).append(' ');
-        shown.append(method.getName()).append('(');
-        for (int i = 0; i < method.getParameterCount(); i++) {
-            shown.append(i > 0 ? "," : "").append(method.getParameterTypes()[i].getSimpleName());
-        }
-        shown.append(')');
-        for (Class<?> thrown : method.getExceptionTypes()) {
-            shown.append(' ').append(thrown.getSimpleName());
-        }
-        return shown.toString();
-    }
-
-    private void face() {
-        List<String> open = new ArrayList<>();
-        for (Method method : BarForger.class.getDeclaredMethods()) {
-            if (Modifier.isPublic(method.getModifiers())) {
-                open.add(shown(method));
-                checks.holds(method + " is of the object", !Modifier.isStatic(method.getModifiers()));
-            }
-        }
-        checks.holds("the methods " + open, new TreeSet<>(open).equals(new TreeSet<>(Arrays.asList(FACE))));
-        Constructor<?>[] made = BarForger.class.getDeclaredConstructors();
-        checks.holds("one public constructor", made.length == 1 && made[0].getParameterCount() == 0
-                && Modifier.isPublic(made[0].getModifiers()));
-        int modifiers = BarForger.class.getModifiers();
-        checks.holds("public and final", Modifier.isPublic(modifiers) && Modifier.isFinal(modifiers));
-    }
-
-    private void membersAreHidden() {
-        TreeSet<String> names = new TreeSet<>();
-        for (String line : FACE) {
-            names.add(line.substring(line.indexOf(' ') + 1, line.indexOf('(')));
-        }
-        for (Method method : BarForger.class.getDeclaredMethods()) {
-            int modifiers = method.getModifiers();
-            checks.holds(method + " is public or private",
-                    Modifier.isPublic(modifiers) || Modifier.isPrivate(modifiers));
-            checks.holds(method + " bears no public name",
-                    Modifier.isPublic(modifiers) || !names.contains(method.getName()));
-        }
-        for (Field field : BarForger.class.getDeclaredFields()) {
-            checks.holds(field + " is private", field.getName().equals("NONE")
-                    || Modifier.isPrivate(field.getModifiers()));
-        }
-        for (Class<?> inner : BarForger.class.getDeclaredClasses()) {
-            checks.holds(inner + " is private and static", Modifier.isPrivate(inner.getModifiers())
-                    && Modifier.isStatic(inner.getModifiers()));
-            for (Method method : inner.getDeclaredMethods()) {
-                checks.holds(method + " bears no public name", !names.contains(method.getName()));
-                checks.holds(method + " has few parameters", method.getParameterCount() <= 7);
-            }
-        }
     }
 
     private void sizes() {
@@ -128,6 +42,9 @@ public final class RuleTests {
                 boolean constant = Modifier.isStatic(field.getModifiers());
                 checks.holds(field + " is final if static", !constant || Modifier.isFinal(field.getModifiers()));
                 fields += constant ? 0 : 1;
+            }
+            for (Method method : each.getDeclaredMethods()) {
+                checks.holds(method + " has few parameters", method.getParameterCount() <= 7);
             }
             checks.holds("fields of " + each, fields <= 20);
         }

@@ -2,10 +2,8 @@ import java.math.BigInteger;
 import java.util.ArrayList;
 import java.util.List;
 
-/** Edges of the sentences of promises 25 and 26, and of the 512 calls. */
+/** Edges of the sentences of promises 25 and 26. */
 final class StateEdges {
-    private static final int CALLS = 512;
-
     private final Edges edges;
 
     StateEdges(Edges edges) {
@@ -19,7 +17,6 @@ final class StateEdges {
         digestOfEach();
         digestOverflow();
         none();
-        calls();
     }
 
     private static Edges.Setup scaled(int times) {
@@ -154,30 +151,5 @@ final class StateEdges {
         edges.says("Terms", "The constants: NONE = -1: There is no such thing.");
         edges.due(Edges.NEW, x -> BarForger.NONE, -1);
         edges.due(Edges.NEW, x -> x.way(0, 100, 5, 0), -1);
-    }
-
-    /** 512 calls behind the making; the last few ask what is left. */
-    private void calls() {
-        edges.says("What it is", "An object is used for at most 512 calls after it has been made");
-        edges.due(Edges.NEW, x -> {
-            for (int call = 1; call < CALLS; call++) {
-                x.heat();
-            }
-            return x.value(3);
-        }, CALLS - 1);
-        edges.due(Edges.NEW, x -> {
-            for (int call = 1; call < CALLS; call++) {
-                x.digest();
-            }
-            return x.digest() - exactHash(x, 0, 0);
-        }, 0L);
-        edges.due(x -> x.tellStep(5, 5, 0, 0), x -> {
-            int blows = 0;
-            for (int call = 2; call < CALLS; call += 2) {
-                blows += x.forge(0, 5, 5, 0);
-                x.undo();
-            }
-            return blows;
-        }, 47 * 255);
     }
 }
